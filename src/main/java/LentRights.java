@@ -479,13 +479,15 @@ public final class LentRights {
         }
 
         int at(int row, int column) {
-            int cell = cellOf(row, column);
-            return cell >= 0 && cell < cells.length ? cells[cell] : 0;
+            boolean used = row >= 0 && row < rows && column >= 0 && column < columns;
+            int cell = row * columns + column;
+            return used && cell >= 0 && cell < cells.length ? cells[cell] : 0;
         }
 
         void put(int row, int column, int number) {
-            int cell = cellOf(row, column);
-            if (cell >= 0 && cell < cells.length) {
+            boolean used = row >= 0 && row < rows && column >= 0 && column < columns;
+            int cell = row * columns + column;
+            if (used && cell >= 0 && cell < cells.length) {
                 cells[cell] = number;
             }
         }
@@ -500,12 +502,14 @@ public final class LentRights {
         }
 
         void drop(int row) {
-            if (!has(row)) {
+            if (row < 0 || row >= rows) {
                 return;
             }
-            for (int next = row + 1; next < rows; next++) {
-                for (int column = 0; column < columns; column++) {
-                    put(next - 1, column, at(next, column));
+            int used = rows * columns;
+            for (int cell = (row + 1) * columns; cell < used && cell < cells.length; cell++) {
+                int to = cell - columns;
+                if (to >= 0 && to < cells.length) {
+                    cells[to] = cells[cell];
                 }
             }
             rows--;
@@ -521,11 +525,6 @@ public final class LentRights {
             for (int cell = 0; cell < used && cell < cells.length && cell < other.cells.length; cell++) {
                 cells[cell] = other.cells[cell];
             }
-        }
-
-        private int cellOf(int row, int column) {
-            boolean inside = has(row) && column >= 0 && column < columns;
-            return inside ? row * columns + column : NONE;
         }
     }
 
@@ -669,7 +668,7 @@ public final class LentRights {
         /** The rights that a living grant passes on now. */
         int passedOn(int place) {
             int thing = grants.at(place, THING);
-            int lenders = rightsOf(grants.at(place, LENDER), thing);
+            int lenders = held.at(thing, grants.at(place, LENDER));
             if ((lenders & LEND) == 0) {
                 return 0;
             }
@@ -796,21 +795,14 @@ public final class LentRights {
             for (int round = 0; round < MOST_ROUNDS && grown; round++) {
                 grown = false;
                 for (int place = 0; place < grants.rows(); place++) {
-                    if (hasSpread(place)) {
-                        grown = true;
-                    }
+                    int thing = grants.at(place, THING);
+                    int borrower = grants.at(place, BORROWER);
+                    int before = held.at(thing, borrower);
+                    int after = before | passedOn(place);
+                    held.put(thing, borrower, after);
+                    grown = grown || after != before;
                 }
             }
-        }
-
-        /** Adds what a grant passes on to what its borrower holds, and tells if that was more than before. */
-        private boolean hasSpread(int place) {
-            int thing = grants.at(place, THING);
-            int borrower = grants.at(place, BORROWER);
-            int before = rightsOf(borrower, thing);
-            int after = before | passedOn(place);
-            held.put(thing, borrower, after);
-            return after != before;
         }
 
         private void calm(int person) {
@@ -856,7 +848,7 @@ public final class LentRights {
         private int thingsSeenBy(int person) {
             int set = 0;
             for (int thing = 0; thing < things.rows(); thing++) {
-                if ((rightsOf(person, thing) & SEE) != 0) {
+                if ((held.at(thing, person) & SEE) != 0) {
                     set |= 1 << thing;
                 }
             }
@@ -866,7 +858,7 @@ public final class LentRights {
         private int holdersOf(int thing, int right) {
             int set = 0;
             for (int person = 0; person < PERSONS; person++) {
-                if ((rightsOf(person, thing) & right) != 0) {
+                if ((held.at(thing, person) & right) != 0) {
                     set |= 1 << person;
                 }
             }
@@ -1115,11 +1107,11 @@ public final class LentRights {
         private int readNumber(int mostDigits, int least, int most) {
             int start = place;
             int number = 0;
-            for (int digits = 0; digits < mostDigits && isAtDigit(); digits++) {
+            for (int digits = 0; digits < mostDigits && isDigit(current()); digits++) {
                 number = 10 * number + current() - '0';
                 place++;
             }
-            if (place == start || isAtDigit()) {
+            if (place == start || isDigit(current())) {
                 fail(place);
             } else if (!isBetween(number, least, most)) {
                 fail(start);
@@ -1127,8 +1119,8 @@ public final class LentRights {
             return number;
         }
 
-        private boolean isAtDigit() {
-            return isBetween(current(), '0', '9');
+        private static boolean isDigit(int value) {
+            return isBetween(value, '0', '9');
         }
 
         private int current() {

@@ -2,7 +2,7 @@ import java.util.Random;
 
 /** Makes the same random calls on the program and on the model, and compares every answer. */
 public final class ModelTest {
-    private static final int RUNS = 150;
+    private static final int RUNS = 300;
     private static final int CALLS = 512;
 
     private static final Check check = new Check();
@@ -15,6 +15,7 @@ public final class ModelTest {
     private final LentRights x = new LentRights();
     private final Model model = new Model();
     private String waiting = "";
+    private boolean fewThings;
 
     private ModelTest(long seed) {
         random = new Random(seed);
@@ -28,8 +29,11 @@ public final class ModelTest {
     }
 
     private void run(int run) {
+        // Runs with few things have more grants for each of them, so longer chains.
+        int firstThings = new int[] {0, 1, 1, 2, 4, 8}[run % 6];
+        fewThings = firstThings == 1 || firstThings == 2;
         for (int call = 0; call < CALLS; call++) {
-            String told = call < 8 && run % 3 != 0 ? addThing() : call();
+            String told = call < firstThings ? addThing() : call();
             if (told == null) {
                 return;
             }
@@ -55,11 +59,12 @@ public final class ModelTest {
     }
 
     private int somePerson() {
-        return random.nextInt(3) == 0 ? some(0, 9) : some(0, 4);
+        return some(0, 9);
     }
 
     private int someThing() {
-        return random.nextInt(3) == 0 ? some(0, 7) : some(0, 2);
+        int things = model.value(0);
+        return some(0, things > 0 && random.nextInt(20) != 0 ? things - 1 : 7);
     }
 
     private int someMask() {
@@ -71,12 +76,46 @@ public final class ModelTest {
     }
 
     private int someThreshold() {
-        return random.nextInt(2) == 0 ? some(0, 100) : some(0, 60);
+        return random.nextInt(5) == 0 ? some(0, 100) : some(0, 40);
     }
 
+    /** Mostly the number of a living grant. */
     private int someNumber() {
         int given = model.value(2);
-        return some(given > 50 ? given - 50 : 0, given > 0 ? given - 1 : 0);
+        int number = 0;
+        for (int tries = 0; tries < 20; tries++) {
+            number = some(0, given);
+            if (!outcome(numberOf(number)).contains("Exception")) {
+                return number;
+            }
+        }
+        return number;
+    }
+
+    private Call numberOf(int number) {
+        return () -> model.grantOf(number, 0);
+    }
+
+    /** Mostly a person who can lend the thing. */
+    private int someLender(int thing) {
+        int things = model.value(0);
+        int lenders = thing >= 0 && thing < things ? model.thing(thing, 5) : 0;
+        int person = somePerson();
+        for (int tries = 0; tries < 40 && random.nextInt(30) != 0; tries++) {
+            if (person >= 0 && person <= 9 && (lenders >> person & 1) != 0) {
+                return person;
+            }
+            person = somePerson();
+        }
+        return person;
+    }
+
+    /** Mostly rights that the person holds. */
+    private int someRightsOf(int person, int thing) {
+        int rights = someRights();
+        boolean known = person >= 0 && person <= 9 && thing >= 0 && thing < model.value(0);
+        int held = known && random.nextInt(10) != 0 ? model.held(person, thing) : 0;
+        return held != 0 && (rights & held) != 0 && rights >= 0 && rights <= 7 ? rights & held : rights;
     }
 
     private String addThing() {
@@ -87,22 +126,25 @@ public final class ModelTest {
 
     private String call() {
         if (!waiting.isEmpty()) {
-            int value = waiting.charAt(0);
-            waiting = waiting.substring(1);
-            return same("append " + value, () -> x.append(value), () -> model.append(value));
+            String told = null;
+            for (char value : waiting.toCharArray()) {
+                told = same("append " + (int) value, () -> x.append(value), () -> model.append(value));
+            }
+            waiting = "";
+            return told == null ? null : same("carryOut", x::carryOut, model::carryOut);
         }
         int kind = random.nextInt(100);
         if (kind < 25) {
             return grant();
         }
-        return kind < 55 ? change(kind) : kind < 62 ? text() : ask(kind);
+        return kind < 48 ? change(kind) : kind < 55 ? text() : ask(random.nextInt(40));
     }
 
     private String grant() {
-        int lender = somePerson();
-        int borrower = somePerson();
         int thing = someThing();
-        int rights = someRights();
+        int lender = someLender(thing);
+        int borrower = somePerson();
+        int rights = someRightsOf(lender, thing);
         int threshold = someThreshold();
         String told = lender + " " + borrower + " " + thing + " " + rights + " " + threshold;
         if (random.nextInt(4) == 0) {
@@ -116,40 +158,41 @@ public final class ModelTest {
     private String change(int kind) {
         int person = somePerson();
         int thing = someThing();
-        if (kind < 28) {
+        if (kind < 26 && !fewThings) {
             return addThing();
-        } else if (kind < 31) {
+        } else if (kind < 28) {
             int mask = someMask();
             return same("setMask " + thing + " " + mask, () -> x.setMask(thing, mask), () -> model.setMask(thing, mask));
-        } else if (kind < 34) {
-            int base = some(0, 100);
+        } else if (kind < 32) {
+            int base = random.nextInt(3) == 0 ? some(0, 100) : some(40, 80);
             return same("setBase " + person + " " + base, () -> x.setBase(person, base),
                     () -> model.setBase(person, base));
-        } else if (kind < 37) {
+        } else if (kind < 34) {
             return same("give " + thing + " " + person, () -> x.give(thing, person), () -> model.give(thing, person));
-        } else if (kind < 42) {
+        } else if (kind < 38) {
             int number = someNumber();
             return same("revoke " + number, () -> x.revoke(number), () -> model.revoke(number));
-        } else if (kind < 47) {
-            int amount = random.nextInt(3) == 0 ? some(-100, 100) : some(-10, 20);
+        } else if (kind < 43) {
+            int amount = random.nextInt(6) == 0 ? some(-100, 100) : some(-12, 20);
             return same("cheer " + person + " " + amount, () -> x.cheer(person, amount),
                     () -> model.cheer(person, amount));
-        } else if (kind < 50) {
-            int ticks = random.nextInt(3) == 0 ? some(1, 100) : some(1, 5);
+        } else if (kind < 46) {
+            int ticks = random.nextInt(6) == 0 ? some(1, 100) : some(1, 5);
             return same("pass " + ticks, () -> x.pass(ticks), () -> model.pass(ticks));
         }
         return same("undo", x::undo, model::undo);
     }
 
     private String text() {
-        switch (random.nextInt(3)) {
+        switch (random.nextInt(8)) {
             case 0:
                 return same("clearText", x::clearText, model::clearText);
             case 1:
+            case 2:
                 return same("carryOut", x::carryOut, model::carryOut);
             default:
                 StringBuilder orders = new StringBuilder();
-                int count = random.nextInt(5);
+                int count = random.nextInt(9);
                 for (int order = 0; order < count; order++) {
                     orders.append(someOrder());
                 }
@@ -162,14 +205,17 @@ public final class ModelTest {
     private String someOrder() {
         switch (random.nextInt(6)) {
             case 0:
-                return "v" + zeros() + random.nextInt(Math.max(1, model.value(2))) + ";";
+                return "v" + zeros() + Math.floorMod(someNumber(), 1000) + ";";
             case 1:
-                return "c" + random.nextInt(10) + (random.nextBoolean() ? "+" : "-") + zeros() + someEdge(100) + ";";
+                return "c" + random.nextInt(10) + (random.nextInt(3) == 0 ? "-" : "+") + zeros() + someEdge(100) + ";";
             case 2:
                 return "t" + zeros() + someEdge(50) + ";";
             default:
-                return "g" + random.nextInt(4) + random.nextInt(5) + random.nextInt(3) + (1 + random.nextInt(7))
-                        + "," + zeros() + (random.nextInt(4) == 0 ? someEdge(100) : random.nextInt(50)) + ";";
+                int thing = random.nextInt(Math.max(1, model.value(0)));
+                int lender = Math.floorMod(someLender(thing), 10);
+                int rights = 1 + Math.floorMod(someRightsOf(lender, thing) - 1, 7);
+                int threshold = random.nextInt(5) == 0 ? someEdge(100) : random.nextInt(50);
+                return "g" + lender + random.nextInt(10) + thing + rights + "," + zeros() + threshold + ";";
         }
     }
 
@@ -184,7 +230,7 @@ public final class ModelTest {
 
     private void spoil(StringBuilder orders) {
         String bytes = "gvct0123456789,;+- x";
-        if (orders.length() == 0 || random.nextInt(2) == 0) {
+        if (orders.length() == 0 || random.nextInt(3) != 0) {
             return;
         }
         int place = random.nextInt(orders.length());
@@ -208,24 +254,24 @@ public final class ModelTest {
         int person = somePerson();
         int thing = someThing();
         int what = some(0, 8);
-        if (kind < 65) {
+        if (kind < 5) {
             return same("held " + person + " " + thing, () -> x.held(person, thing), () -> model.held(person, thing));
-        } else if (kind < 68) {
+        } else if (kind < 8) {
             return same("person " + person + " " + what, () -> x.person(person, what),
                     () -> model.person(person, what));
-        } else if (kind < 71) {
+        } else if (kind < 11) {
             return same("thing " + thing + " " + what, () -> x.thing(thing, what), () -> model.thing(thing, what));
-        } else if (kind < 74) {
+        } else if (kind < 14) {
             int number = someNumber();
             return same("grantOf " + number + " " + what, () -> x.grantOf(number, what),
                     () -> model.grantOf(number, what));
-        } else if (kind < 77) {
+        } else if (kind < 17) {
             return same("chain " + person + " " + thing, () -> x.chain(person, thing), () -> model.chain(person, thing));
-        } else if (kind < 81) {
-            int place = some(0, 3);
+        } else if (kind < 21) {
+            int place = random.nextInt(3) == 0 ? some(0, 9) : some(0, 1);
             return same("link " + person + " " + thing + " " + place, () -> x.link(person, thing, place),
                     () -> model.link(person, thing, place));
-        } else if (kind < 85) {
+        } else if (kind < 25) {
             int right = random.nextInt(8) == 0 ? some(0, 7) : 1 << random.nextInt(3);
             return same("why " + person + " " + thing + " " + right, () -> x.why(person, thing, right),
                     () -> model.why(person, thing, right));
@@ -234,20 +280,20 @@ public final class ModelTest {
     }
 
     private String askMore(int kind, int person, int what) {
-        if (kind < 87) {
+        if (kind < 27) {
             return same("value " + what, () -> x.value(what), () -> model.value(what));
-        } else if (kind < 90) {
-            int index = some(0, 12);
+        } else if (kind < 30) {
+            int index = some(0, Math.max(0, model.value(8) - 1));
             int part = some(0, 2);
             return same("entry " + index + " " + part, () -> x.entry(index, part), () -> model.entry(index, part));
-        } else if (kind < 92) {
+        } else if (kind < 32) {
             return same("lostBy " + person, () -> x.lostBy(person), () -> model.lostBy(person));
-        } else if (kind < 93) {
+        } else if (kind < 33) {
             return same("mostNeeded", x::mostNeeded, model::mostNeeded);
-        } else if (kind < 95) {
+        } else if (kind < 35) {
             int ticks = some(0, 100);
             return same("seenIn " + ticks, () -> x.seenIn(ticks), () -> model.seenIn(ticks));
-        } else if (kind < 97) {
+        } else if (kind < 37) {
             return same("patience " + person, () -> x.patience(person), () -> model.patience(person));
         }
         return same("meanChain", x::meanChain, model::meanChain);

@@ -13,6 +13,7 @@ public final class ValuesTest {
     public static void main(String[] args) {
         held();
         heldByParts();
+        heldAgainstTheNumbers();
         person();
         thing();
         grantOf();
@@ -93,6 +94,24 @@ public final class ValuesTest {
         y.give(0, 2);
         check.same("10: a new owner feeds it", 7, y.held(1, 0));
         check.same("10: and what hangs on it", 7, y.held(3, 0));
+    }
+
+    /** A chain whose grants have descending numbers: each grant feeds one with a lower number. */
+    private static void heldAgainstTheNumbers() {
+        LentRights x = new LentRights();
+        x.addThing(9, 7);
+        for (int owner = 1; owner <= 9; owner++) {
+            x.give(0, owner);
+            x.grant(owner, owner - 1, 0, 5, owner);  // owner - 1
+        }
+        for (int person = 0; person < 9; person++) {
+            check.same("10: held(" + person + ", 0)", 5, x.held(person, 0));
+            check.same("14: chain(" + person + ", 0)", 9 - person, x.chain(person, 0));
+            check.same("15: link(" + person + ", 0, ..)", person, x.link(person, 0, 8 - person));
+            check.same("19: lostBy(" + (person + 1) + ")", person + 1, x.lostBy(person + 1));
+        }
+        check.same("20: mostNeeded()", 9, x.mostNeeded());
+        check.same("24: meanChain()", 4.5, x.meanChain());
     }
 
     private static void person() {
@@ -244,6 +263,14 @@ public final class ValuesTest {
         check.same("15: the link with sight", 0, y.link(3, 0, 0));
         y.revoke(2);
         check.same("14: no right to lend on the way", -1, y.chain(3, 0));
+
+        LentRights z = new LentRights();
+        z.addThing(0, 7);
+        z.grant(0, 1, 0, 7, 0);  // 0
+        z.grant(0, 1, 0, 7, 0);  // 1
+        z.grant(0, 1, 0, 7, 0);  // 2
+        z.revoke(0);
+        check.same("15: the lowest that lives", 1, z.link(1, 0, 0));
     }
 
     private static void why() {

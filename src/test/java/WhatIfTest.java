@@ -130,6 +130,10 @@ public final class WhatIfTest {
         check.same("23: the mood", 65, x.patience(3));
         x.revoke(4);
         check.same("23: with the threshold 0", 60, x.patience(0));
+        x.revoke(0);
+        x.revoke(1);
+        x.revoke(2);
+        check.same("23: by the only grant", 30, x.patience(1));
         for (int no : NO_PERSONS) {
             check.refuses("23: person " + no, INDEX, x, () -> x.patience(no));
         }

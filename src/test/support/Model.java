@@ -90,6 +90,9 @@ final class Model {
                     }
                 }
                 then[owner(thing)] = 7;
+                if (Arrays.equals(now, then)) {
+                    break;
+                }
                 now = then;
             }
             return now[person];
