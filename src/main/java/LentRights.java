@@ -494,7 +494,7 @@ public final class LentRights {
 
         /** Opens a row at the end, whose numbers are still to be put. */
         int addRow() {
-            if (isFull()) {
+            if (rows >= limit) {
                 return NONE;
             }
             rows++;
@@ -506,10 +506,10 @@ public final class LentRights {
                 return;
             }
             int used = rows * columns;
-            for (int cell = (row + 1) * columns; cell < used && cell < cells.length; cell++) {
-                int to = cell - columns;
-                if (to >= 0 && to < cells.length) {
-                    cells[to] = cells[cell];
+            for (int to = row * columns; to < used - columns; to++) {
+                int from = to + columns;
+                if (to >= 0 && to < cells.length && from >= 0 && from < cells.length) {
+                    cells[to] = cells[from];
                 }
             }
             rows--;
