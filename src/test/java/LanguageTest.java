@@ -16,6 +16,8 @@ import java.util.spi.ToolProvider;
 /** The rules of ../shared/LANGUAGE.md that a text search or javap can see; the others are for the reader. */
 public final class LanguageTest {
     private static final Path SOURCE = Path.of("src/main/java/LentRights.java");
+    private static final Set<String> IMPORTS = Set.of("java.util.NoSuchElementException", "java.util.ArrayList",
+            "java.util.List", "java.util.Arrays", "java.util.Iterator");
     private static final int DEEPEST = 8;
     private static final int LONGEST = 60;
     private static final Pattern METHOD = Pattern.compile("^  (?:\\S.* )?([\\w$]+)\\(.*\\).*;$");
@@ -33,13 +35,13 @@ public final class LanguageTest {
 
     private static void words(String source) {
         String code = source.replaceAll("(?s)/\\*.*?\\*/", "").replaceAll("//.*", "").replaceAll("\"[^\"]*\"", "\"\"");
-        for (String banned : new String[] {"\\btry\\b", "\\bcatch\\b", "\\bfinally\\b", "->", "::", "\\bassert\\b",
-            "\\bsynchronized\\b", "\\bfloat\\b", "\\bpackage\\b", "@", "\\bwhile *\\(true", "\"\" *\\+", "\\+ *\"\""}) {
+        for (String banned : new String[] {"\\bfinally\\b", "->", "::", "\\bassert\\b", "\\bsynchronized\\b",
+            "\\bpackage\\b", "\\bwhile *\\(true", "\"\" *\\+", "\\+ *\"\"", "\\w+Exact\\b", "\\btry *\\("}) {
             check.holds("without " + banned, !Pattern.compile(banned).matcher(code).find());
         }
         Matcher imported = Pattern.compile("(?m)^import (.*);$").matcher(code);
         while (imported.find()) {
-            check.holds(imported.group(1), imported.group(1).equals("java.util.NoSuchElementException"));
+            check.holds(imported.group(1), IMPORTS.contains(imported.group(1)));
         }
         check.holds("signs from 1 to 127 alone", source.chars().allMatch(sign -> sign > 0 && sign < 128));
     }
@@ -71,7 +73,7 @@ public final class LanguageTest {
         for (Class<?> type : classes) {
             read(type.getName(), calls);
         }
-        check.holds("calls were found", calls.size() > 50);
+        check.holds("calls were found", !calls.isEmpty());
         int deepest = 0;
         for (String method : calls.keySet()) {
             int depth = depthOf(method, calls, 0);

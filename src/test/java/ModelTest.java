@@ -2,7 +2,7 @@ import java.util.Random;
 
 /** Makes the same random calls on the program and on the model, and compares every answer. */
 public final class ModelTest {
-    private static final int RUNS = 300;
+    private static final int RUNS = 700;
     private static final int CALLS = 512;
 
     private static final Check check = new Check();
@@ -16,6 +16,7 @@ public final class ModelTest {
     private final Model model = new Model();
     private String waiting = "";
     private boolean fewThings;
+    private int calls;
 
     private ModelTest(long seed) {
         random = new Random(seed);
@@ -32,16 +33,23 @@ public final class ModelTest {
         // Runs with few things have more grants for each of them, so longer chains.
         int firstThings = new int[] {0, 1, 1, 2, 4, 8}[run % 6];
         fewThings = firstThings == 1 || firstThings == 2;
-        for (int call = 0; call < CALLS; call++) {
-            String told = call < firstThings ? addThing() : call();
+        // A step makes at most a text's calls: 100 times append() and carryOut(), and then digest().
+        for (int step = 0; calls + 102 <= CALLS; step++) {
+            String told = step < firstThings ? addThing() : call();
             if (told == null) {
                 return;
             }
-            if (call % 16 == 0 && x.digest() != model.digest()) {
-                check.complain("run " + run + ", call " + call + ", " + told + ": another digest");
+            if (step % 16 == 0 && digest() != model.digest()) {
+                check.complain("run " + run + ", step " + step + ", " + told + ": another digest");
                 return;
             }
         }
+        check.sameLong("run " + run + ", the last digest", model.digest(), digest());
+    }
+
+    private long digest() {
+        calls++;
+        return x.digest();
     }
 
     /** A number in a range, or sometimes a bit outside of it. */
@@ -301,6 +309,7 @@ public final class ModelTest {
 
     /** Returns what was compared, or null if the answers differ: then the rest of the run tells nothing. */
     private String same(String told, Call of, Call due) {
+        calls++;
         String got = outcome(of);
         String want = outcome(due);
         check.holds(told + " answered " + got + ", due is " + want + ": that", got.equals(want));
